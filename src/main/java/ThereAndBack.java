@@ -1149,7 +1149,8 @@ public final class ThereAndBack {
 
     /** NAMES and STACKS. */
     private static final class State {
-        private static final int NAMES = 26, STACKS = 4, HIGHEST = 30;
+        static final int NAMES = 26;
+        private static final int STACKS = 4, HIGHEST = 30;
 
         private final boolean[] there = new boolean[NAMES];
         private final int[] ints = new int[NAMES];
@@ -1170,11 +1171,11 @@ public final class ThereAndBack {
         }
 
         boolean isThere(int k) {
-            return isName(k) && there[k];
+            return k >= 0 && k < NAMES && there[k];
         }
 
         int worthOf(int k) {
-            return isThere(k) ? ints[k] : 0;
+            return k >= 0 && k < NAMES && there[k] ? ints[k] : 0;
         }
 
         void bring(int k, int v) {
@@ -1196,11 +1197,11 @@ public final class ThereAndBack {
         }
 
         int heightOf(int s) {
-            return isStack(s) ? heights[s] : 0;
+            return s >= 0 && s < STACKS ? heights[s] : 0;
         }
 
         int intOf(int s, int i) {
-            return i >= 0 && i < heightOf(s) ? piles[s][i] : 0;
+            return i >= 0 && i < heightOf(s) && i < HIGHEST ? piles[s][i] : 0;
         }
 
         boolean isFull(int s) {
@@ -1208,8 +1209,7 @@ public final class ThereAndBack {
         }
 
         void pile(int s, int v) {
-            if (!isStack(s) || isFull(s)) return;
-            piles[s][heights[s]++] = v;
+            if (isStack(s) && heights[s] < HIGHEST) piles[s][heights[s]++] = v;
         }
 
         int unpile(int s) {
@@ -1281,7 +1281,7 @@ public final class ThereAndBack {
         }
 
         int heldByRow(int r) {
-            return isRow(r) ? rows[r] : NOTHING;
+            return r >= 0 && r < ROWS ? rows[r] : NOTHING;
         }
 
         int heldAtPlace(int place) {
@@ -1333,11 +1333,11 @@ public final class ThereAndBack {
         }
 
         int kindOf(int number) {
-            return isNumber(number) ? kinds[number] : NOTHING;
+            return number >= 0 && number < NUMBERS ? kinds[number] : NOTHING;
         }
 
         int countOf(int number) {
-            return isNumber(number) ? counts[number] : 0;
+            return number >= 0 && number < NUMBERS ? counts[number] : 0;
         }
 
         /** Whether a row has n ITEMS from i on. */
@@ -1346,16 +1346,16 @@ public final class ThereAndBack {
         }
 
         long load(int number, int i) {
-            return spans(number, i, 1) ? items[number][i] : 0;
+            return number >= 0 && number < NUMBERS && i >= 0 && i < counts[number] ? items[number][i] : 0;
         }
 
         void store(int number, int i, long v) {
-            if (spans(number, i, 1)) items[number][i] = cut(kinds[number], v);
+            if (number >= 0 && number < NUMBERS && i >= 0 && i < counts[number]) items[number][i] = cut(kinds[number], v);
         }
 
         void carry(int source, int i, int target, int j, int n) {
-            if (!spans(source, i, n) || !spans(target, j, n)) return;
-            if (isNumber(source) && isNumber(target)) System.arraycopy(items[source], i, items[target], j, n);
+            if (!isNumber(source) || !isNumber(target) || !spans(source, i, n) || !spans(target, j, n)) return;
+            System.arraycopy(items[source], i, items[target], j, n);
         }
 
         boolean isAllNaught(int number) {
@@ -1378,31 +1378,6 @@ public final class ThereAndBack {
         }
     }
 
-    /** What a P tells: a NAME, or an ITEM of a row on the shelf. */
-    private static final class Spot {
-        private int name = Shelf.NOTHING;
-        private int number = Shelf.NOTHING;
-        private int item = Shelf.NOTHING;
-
-        void become(int name, int number, int item) {
-            this.name = name;
-            this.number = number;
-            this.item = item;
-        }
-
-        boolean isName() {
-            return name != Shelf.NOTHING;
-        }
-
-        boolean isItem(int number, int item) {
-            return !isName() && this.number == number && this.item == item;
-        }
-
-        boolean equalsSpot(Spot other) {
-            return name == other.name && number == other.number && item == other.item;
-        }
-    }
-
     /** What an E comes to. It goes on from where the last E or P ended only until something is REFUSED. */
     private static final class Worth {
         // A TEXT that was TURNED has brackets one deeper than one that was read.
@@ -1412,8 +1387,7 @@ public final class ThereAndBack {
         private final Shelf shelf;
         private final int[] itemsRead = new int[Shelf.NUMBERS];
         private int namesRead;
-        private final Spot nothing = new Spot();
-        private Spot kept = nothing;
+        private int kept = Shelf.NOTHING;
         private Text text;
         private int at;
         private int refused;
@@ -1428,7 +1402,7 @@ public final class ThereAndBack {
         void start() {
             Arrays.fill(itemsRead, 0);
             namesRead = 0;
-            kept = nothing;
+            kept = Shelf.NOTHING;
             refused = 0;
         }
 
@@ -1442,28 +1416,36 @@ public final class ThereAndBack {
             return sum(0);
         }
 
-        /** Finds what the P at a TOKEN tells. */
-        void find(Text in, int from, Spot spot) {
+        /** What the P at a TOKEN tells, as one number: a NAME is its own, an ITEM comes behind all NAMES. */
+        int find(Text in, int from) {
             text = in;
             at = from + 1;
             int t = in.token(from);
-            if (refused != 0) return;
-            if (Token.isName(t)) {
-                if (!state.isThere(t - 'a')) refuse(ABSENT);
-                spot.become(t - 'a', Shelf.NOTHING, Shelf.NOTHING);
-            } else {
-                int item = itemAhead(t - 'A', 0);
-                spot.become(Shelf.NOTHING, shelf.heldByRow(t - 'A'), item);
-            }
+            if (Token.isRow(t)) return spotOf(shelf.heldByRow(t - 'A'), itemAhead(t - 'A', 0));
+            if (!state.isThere(t - 'a')) refuse(ABSENT);
+            return t - 'a';
         }
 
-        boolean wasRead(Spot spot) {
-            if (spot.isName()) return (namesRead & 1 << spot.name) != 0;
-            return Shelf.isNumber(spot.number) && (itemsRead[spot.number] & 1 << spot.item) != 0;
+        static int spotOf(int number, int item) {
+            return State.NAMES + number * Shelf.ITEMS + item;
+        }
+
+        static int numberAt(int spot) {
+            return (spot - State.NAMES) / Shelf.ITEMS;
+        }
+
+        static int itemAt(int spot) {
+            return (spot - State.NAMES) % Shelf.ITEMS;
+        }
+
+        boolean wasRead(int spot) {
+            if (State.isName(spot)) return (namesRead & 1 << spot) != 0;
+            int number = numberAt(spot);
+            return Shelf.isNumber(number) && (itemsRead[number] & 1 << itemAt(spot)) != 0;
         }
 
         /** From now on this ITEM may not be read: SELF. */
-        void keep(Spot spot) {
+        void keep(int spot) {
             kept = spot;
         }
 
@@ -1538,7 +1520,7 @@ public final class ThereAndBack {
             int item = itemAhead(r, depth);
             int number = shelf.heldByRow(r);
             if (refused != 0 || !Shelf.isNumber(number)) return 0;
-            if (kept.isItem(number, item)) refuse(SELF);
+            if (kept == spotOf(number, item)) refuse(SELF);
             itemsRead[number] |= 1 << item;
             return shelf.load(number, item);
         }
@@ -1570,8 +1552,6 @@ public final class ThereAndBack {
         private final State state;
         private final Shelf shelf;
         private final Worth worth;
-        private final Spot first = new Spot();
-        private final Spot second = new Spot();
 
         Doer(State state, Shelf shelf, Worth worth) {
             this.state = state;
@@ -1650,60 +1630,61 @@ public final class ThereAndBack {
         }
 
         private int swap(Text text, int start, int body) {
-            worth.find(text, start, first);
-            worth.find(text, body, second);
+            int first = worth.find(text, start);
+            if (worth.refused() != 0) return worth.refused();
+            int second = worth.find(text, body);
             if (worth.refused() != 0) return worth.refused();
             if (kindOf(first) != kindOf(second)) return KIND;
-            if (first.equalsSpot(second) || worth.wasRead(first) || worth.wasRead(second)) return SELF;
-            long kept = load(first);
+            if (first == second || worth.wasRead(first) || worth.wasRead(second)) return SELF;
+            long held = load(first);
             store(first, load(second));
-            store(second, kept);
+            store(second, held);
             return 0;
         }
 
         private int change(int op, Text text, int start, int body) {
-            worth.find(text, start, first);
+            int spot = worth.find(text, start);
             if (worth.refused() != 0) return worth.refused();
-            if (!first.isName() && worth.wasRead(first)) return SELF;
-            worth.keep(first);
+            if (!State.isName(spot) && worth.wasRead(spot)) return SELF;
+            worth.keep(spot);
             long e = worth.sumAt(text, body);
-            if (worth.refused() == 0) store(first, changed(op, load(first), e));
+            if (worth.refused() == 0) store(spot, changed(op, load(spot), e, Shelf.bitsOf(kindOf(spot))));
             return worth.refused();
         }
 
-        private long changed(int op, long v, long e) {
+        private static long changed(int op, long v, long e, int bits) {
             switch (op) {
                 case Token.PLUS: return v + e;
                 case Token.MINUS: return v - e;
                 case Token.XOR: return v ^ e;
-                case Token.LEFT: return rotated(v, e);
-                default: return rotated(v, -e);
+                case Token.LEFT: return turnedLeft(v, e, bits);
+                default: return turnedLeft(v, -e, bits);
             }
         }
 
-        /** The bits of the first P's KIND turned to the left. That -e goes round is no harm: all counts of bits divide 2^64. */
-        private long rotated(long v, long e) {
-            int bits = Shelf.bitsOf(kindOf(first));
-            int left = (int) Math.floorMod(e, (long) bits);
-            if (left == 0) return v;
+        private static long turnedLeft(long v, long e, int bits) {
+            // The lowest bits of e are e modulo a power of two, of an e below 0 too.
+            int by = (int) e & bits - 1;
+            if (by == 0) return v;
             long low = bits == 64 ? v : v & (1L << bits) - 1;
-            return low << left | low >>> bits - left;
+            return low << by | low >>> bits - by;
         }
 
-        private int kindOf(Spot spot) {
-            return spot.isName() ? Shelf.INT : shelf.kindOf(spot.number);
+        private int kindOf(int spot) {
+            return State.isName(spot) ? Shelf.INT : shelf.kindOf(Worth.numberAt(spot));
         }
 
-        private long load(Spot spot) {
-            return spot.isName() ? state.worthOf(spot.name) : shelf.load(spot.number, spot.item);
+        private long load(int spot) {
+            if (State.isName(spot)) return state.worthOf(spot);
+            return shelf.load(Worth.numberAt(spot), Worth.itemAt(spot));
         }
 
         /** Cuts what it stores to the KIND. */
-        private void store(Spot spot, long v) {
-            if (spot.isName()) {
-                state.bring(spot.name, (int) v);
+        private void store(int spot, long v) {
+            if (State.isName(spot)) {
+                state.bring(spot, (int) v);
             } else {
-                shelf.store(spot.number, spot.item, v);
+                shelf.store(Worth.numberAt(spot), Worth.itemAt(spot), v);
             }
         }
     }
