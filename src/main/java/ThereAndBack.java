@@ -210,7 +210,7 @@ public final class ThereAndBack {
     }
 
     public long digest() {
-        return theRun.digestOn(shelfAndPilesDigest());
+        return theRun.digestOn(stateDigest());
     }
 
     // ---- 4 the bench
@@ -301,7 +301,7 @@ public final class ThereAndBack {
         return texts[routine].size();
     }
 
-    private long shelfAndPilesDigest() {
+    private long stateDigest() {
         return state.digestPiles(shelf.digestRows(state.digestNames(1)));
     }
 
@@ -418,9 +418,9 @@ public final class ThereAndBack {
         private int names;
         private boolean there;
 
+        /** No TOKENS yet: what is written here becomes a TEXT by settle() alone. */
         void clear() {
             length = 0;
-            there = false;
         }
 
         void forget() {
@@ -682,14 +682,17 @@ public final class ThereAndBack {
         private static int keyOf(byte[] tape, int from, int end) {
             if (end - from > Token.KEY_ROOM) return Token.STRANGE;
             for (int k = 0; k + Token.KEY_ROOM <= Token.KEYS.length(); k += Token.KEY_ROOM) {
-                boolean equal = true;
-                for (int i = 0; i < Token.KEY_ROOM; i++) {
-                    int letter = from + i < end ? tape[from + i] : ' ';
-                    equal &= Token.KEYS.charAt(k + i) == letter;
-                }
-                if (equal) return Token.LET + k / Token.KEY_ROOM;
+                if (isKey(k, tape, from, end)) return Token.LET + k / Token.KEY_ROOM;
             }
             return Token.STRANGE;
+        }
+
+        private static boolean isKey(int k, byte[] tape, int from, int end) {
+            for (int i = 0; i < Token.KEY_ROOM; i++) {
+                int letter = from + i < end ? tape[from + i] : ' ';
+                if (Token.KEYS.charAt(k + i) != letter) return false;
+            }
+            return true;
         }
 
         private static boolean isSmall(int b) {

@@ -173,6 +173,12 @@ final class BenchTest {
     /** Every holder has a row of its own, again and again. */
     private static void manyRows() {
         ThereAndBack x = new ThereAndBack();
+        for (int n = 0; n < 20; n++) {
+            x.lay(0, INT, 2);
+            check.due("all 0, anew", x.get(0, INT, 0) + x.get(0, INT, 1), 0);
+            x.set(0, INT, 0, 5);
+            x.set(0, INT, 1, 6);
+        }
         for (int n = 0; n < 3; n++) {
             for (int r = 0; r < 6; r++) {
                 x.lay(0, LONG, 12);

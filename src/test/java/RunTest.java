@@ -256,6 +256,11 @@ final class RunTest {
         x.run(2);
         dueAt(x, 0, 1, -1, 0, 4);
         check.due("value(1)", x.value(1), -5);
+        x.begin(0, false);
+        x.run(2);
+        check.due("at(3)", x.at(3), 1);
+        x.begin(0, false);
+        dueAt(x, 0, 0, 1, 0, 0);
         x.wipe();
         check.due("frame(9, 9) of no run", x.frame(9, 9), NOT);
     }

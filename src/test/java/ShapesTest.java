@@ -127,6 +127,7 @@ final class ShapesTest {
         String[] texts = {
             "set b = 0; while (b < 5) { set b = b + 1; set c = c * b; };",
             "when (a < 3) { set b = a * a; } else { set b = -a; set c = b; };",
+            "while ((((((((2 - a)))))))) { set a = --------2; };",
             "set a = 7; set b = 0; while a { when (a % 2) { set b = b + a; } else { set b = b * 2; }; set a = a - 1; };",
         };
         for (String text : texts) {

@@ -65,6 +65,7 @@ final class TextsTest {
         check.due("the text stays as it was", x.told(9, 0), 1);
         check.due("emptied by a fault", x.read(7), 0);
         check.due("fault(0) of the latest", x.fault(0), 0);
+        check.due("fault(1) of the latest", x.fault(1), 0);
         Check.read(x, 7, "let a = a;");
         x.read(10);
         check.due("BAD is not the latest", x.fault(0), 3);
@@ -85,6 +86,10 @@ final class TextsTest {
         check.dueFault("foo += 1;", 1, 0);
         check.dueFault("ab += 1;", 1, 0);
         check.dueFault("a += ab;", 1, 5);
+        check.dueFault("az += 1;", 1, 0);
+        check.dueFault("za += 1;", 1, 0);
+        check.dueFault("a +=", 1, 4);
+        check.dueFault("a +", 1, 2);
         check.dueFault("a += if;", 1, 5);
         check.dueFault("G[0] += 1;", 1, 0);
         check.dueFault("A += 1;", 1, 2);
@@ -136,6 +141,8 @@ final class TextsTest {
         check.dueFault(repeat("when a {} else{", 5) + "when a {", 2, 82);
         check.due("eight -", Check.read(x, 0, "a += --------b;"), 1);
         check.dueFault("a += ---------b;", 2, 13);
+        check.dueFault("a += b - ---------c;", 2, 17);
+        check.dueFault("a += b * (((((((((c)))))))));", 2, 17);
         check.due("eight ( beside others", Check.read(x, 0, "a += -b + ((((((((b)))))))) - (b) * -c;"), 1);
         check.dueFault("a += (((((((((b)))))))));", 2, 13);
         check.dueFault("a += " + repeat("A[", 9) + "0" + repeat("]", 9) + ";", 2, 22);
@@ -214,9 +221,9 @@ final class TextsTest {
     }
 
     private static void telling() {
-        ThereAndBack x = Check.with("if a { from b { z += 1; } loop { } until c; } else { } fi d; push e S;");
+        ThereAndBack x = Check.with("if a { from b { z += 1; } loop { c <> d; } until c; } else { } fi d; push e S;");
         Check.read(x, 1, "when a { while b { set c = #A; }; } else { }; set d = 1;");
-        check.due("told(0, 0)", x.told(0, 0), 8);
+        check.due("told(0, 0)", x.told(0, 0), 9);
         check.due("told(0, 1)", x.told(0, 1), 2);
         check.due("told(0, 2)", x.told(0, 2), 0);
         check.due("told(0, 3)", x.told(0, 3), 2);
@@ -231,6 +238,17 @@ final class TextsTest {
         check.due("told(10, 0)", x.told(10, 0), BAD);
         check.due("told(2, 5)", x.told(2, 5), BAD);
         check.due("told(2, 0)", x.told(2, 0), NOT);
+        // Told anew each time a routine gets a text.
+        for (int n = 0; n < 15; n++) {
+            Check.read(x, n % 3, "a += 1; if a { if a { } else { } fi a; } else { } fi a;");
+            check.due("told(.., 1)", x.told(n % 3, 1), 2);
+            check.due("told(.., 3)", x.told(n % 3, 3), 2);
+            Check.read(x, n % 3, "if b { } else { } fi b;");
+            check.due("told(.., 0)", x.told(n % 3, 0), 3);
+            check.due("told(.., 1)", x.told(n % 3, 1), 1);
+            check.due("told(.., 3)", x.told(n % 3, 3), 1);
+            check.due("told(.., 4)", x.told(n % 3, 4), 2);
+        }
         Check.read(x, 2, "");
         for (int what = 0; what < 5; what++) check.due("told(2, " + what + ") of an empty text", x.told(2, what), 0);
     }
@@ -275,6 +293,18 @@ final class TextsTest {
         check.due("take() again", x.take(), 7);
         check.due("read(1)", x.read(1), 1);
         check.due("same(0, 1)", x.same(0, 1), 1);
+
+        // Exactly 600 bytes, and around that: four for each sign and number, one for each digit more.
+        Check.read(x, 4, "a+=1" + repeat("+1", 148) + "^1;");
+        check.due("print(4)", x.print(4), 7 + 149 * 4);
+        check.due("take() of 603", x.take(), FULL);
+        Check.read(x, 4, "a+=10" + repeat("+1", 148) + ";");
+        check.due("print(4)", x.print(4), 600);
+        check.due("take() of 600", x.take(), 600);
+        check.due("read(4)", x.read(4), 1);
+        Check.read(x, 4, "a+=100" + repeat("+1", 148) + ";");
+        check.due("print(4)", x.print(4), 601);
+        check.due("take() of 601", x.take(), FULL);
 
         // 299 signs and numbers without blanks take 600 bytes, printed they take more.
         Check.read(x, 2, "a+=1" + repeat("+1", 297) + ";");
