@@ -801,8 +801,11 @@ public final class ThereAndBack {
             return passesIf(Token.isPair(text.token(at))) && (swap ? place() : sum(0));
         }
 
+        /** The [ of a P is none of an F, so what stands within it counts from 0 on, as in any E of a STEP. */
         private boolean place() {
-            return Token.isRow(text.token(at)) ? rowItem(0) : name();
+            if (!Token.isRow(text.token(at))) return name();
+            at++;
+            return passes('[') && sum(0) && passes(']');
         }
 
         private boolean rowItem(int brackets) {
@@ -1383,7 +1386,7 @@ public final class ThereAndBack {
 
     /** What an E comes to. It goes on from where the last E or P ended only until something is REFUSED. */
     private static final class Worth {
-        // A TEXT that was TURNED has brackets one deeper than one that was read.
+        // Eight of an F within one another, and around them the [ of a P or the ( that TURNING brings.
         private static final int DEEPEST = 12;
 
         private final State state;

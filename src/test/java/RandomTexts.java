@@ -63,7 +63,19 @@ final class RandomTexts {
     }
 
     private String place() {
-        return random.nextInt(3) > 0 ? name() : row() + "[" + (random.nextInt(4) > 0 ? "" + random.nextInt(3) : sum(1)) + "]";
+        return random.nextInt(3) > 0 ? name() : row() + "[" + index() + "]";
+    }
+
+    private String index() {
+        int dice = random.nextInt(8);
+        if (dice == 0) return deep("" + random.nextInt(3));
+        return dice > 2 ? "" + random.nextInt(3) : sum(1);
+    }
+
+    /** Eight brackets within one another, which leave what is within as it is. */
+    private String deep(String e) {
+        for (int n = 0; n < 8; n += 2) e = random.nextBoolean() ? "((" + e + "))" : "--" + e;
+        return e;
     }
 
     private String sum(int depth) {

@@ -22,6 +22,8 @@ final class ShapesTest {
             "y -= 1; if b { c -= 2; b -= 1; } else { e <> f; d -= 3; } fi (a = 1); x -= 1;");
         dueMirror("from a { b += 1; c += 2; } loop { if d { } else { e += 1; } fi f; g += 1; } until h;",
             "from h { c -= 2; b -= 1; } loop { g -= 1; if f { } else { e -= 1; } fi d; } until a;");
+        dueMirror("A[((((((((1))))))))] += b; c <> A[--------1]; B[(-(-(-(-c))))] << 2; A[--------0] <> B[((((((((0))))))))];",
+            "A[--------0] <> B[((((((((0))))))))]; B[(-(-(-(-c))))] >> 2; c <> A[--------1]; A[((((((((1))))))))] -= b;");
         dueMirror("", "");
 
         ThereAndBack x = Check.with("a += 1; b -= 2;");

@@ -10,6 +10,7 @@ final class StepsTest {
         letsAndUnlets();
         changes();
         exchanges();
+        deepPlaces();
         piles();
         rows();
         evaluations();
@@ -189,6 +190,35 @@ final class StepsTest {
         dueForward("A[A[2]] <> a;", SELF);
         dueForward("A[b] <> A[b + 1];", 0);
         dueForward("C[0] <> C[1];", 0);
+    }
+
+    /** Eight brackets of an F within the [ ] of a P, the most that may stand there. */
+    private static void deepPlaces() {
+        check.due("deep +=", dueForward("A[((((((((1))))))))] += 7;", 0).item(0, 1), 7);
+        check.due("deep += back", dueBack("A[((((((((1))))))))] += 7;", 0).item(0, 1), -7);
+        check.due("deep -=", dueForward("A[--------1] -= 7;", 0).item(0, 1), -7);
+        check.due("deep ^=", dueForward("A[(-(-(-(-1))))] ^= 6;", 0).item(0, 1), 6);
+        check.due("deep <<", dueForward("A[(b < (b < (b < (b < (b < (b < (b < (b < 1)))))))) - 1] << 1;", 0).item(0, 0), 10);
+        check.due("deep >> back", dueBack("A[((((((((1 = 1) = 1) = 1) = 1) = 1) = 1) = 1) = 1) - 1] >> 1;", 0).item(0, 0), 10);
+        check.due("deep rows", dueForward("C[B[A[B[A[B[A[B[A[2]]]]]]]] - 2] += 4;", 0).item(2, 0), 5);
+        check.due("both deep", dueForward("A[((((((((0))))))))] += ((((((((a))))))));", 0).item(0, 0), 8);
+        check.due("deep <> name", dueForward("A[--------2] <> a;", 0).value(0), 2);
+        check.due("name <> deep", dueForward("a <> A[((((((((b))))))))];", 0).value(0), 5);
+        check.due("name <> deep, back", dueBack("a <> A[--------b];", 0).item(0, 0), 3);
+        check.due("deep <> deep", dueForward("A[((((((((0))))))))] <> B[--------2];", 0).item(0, 2), 5);
+
+        dueForward("A[((((((((d))))))))] += 1;", ABSENT);
+        dueForward("E[((((((((0))))))))] += d;", MISSING);
+        dueForward("A[((((((((3))))))))] += d;", OUTSIDE);
+        dueForward("A[((((((((1 / b))))))))] += d;", ZERO);
+        dueForward("A[B[A[B[A[B[A[B[A[2]]]]]]]]] += 1;", SELF);
+        dueForward("A[((((((((2))))))))] += (((((((B[2])))))));", SELF);
+        dueForward("b <> A[((((((((b))))))))];", SELF);
+        dueForward("A[--------b] <> b;", SELF);
+        dueForward("A[((((((((0))))))))] <> B[--------0];", SELF);
+        dueForward("A[((((((((0))))))))] <> C[--------0];", KIND);
+        dueForward("a <> A[((((((((d))))))))];", ABSENT);
+        dueForward("a <> A[--------3];", OUTSIDE);
     }
 
     private static void piles() {

@@ -8,6 +8,7 @@ final class TextsTest {
         reading();
         standing();
         nesting();
+        nestingInPlaces();
         standingInItself();
         tooLong();
         calling();
@@ -147,9 +148,50 @@ final class TextsTest {
         check.dueFault("a += (((((((((b)))))))));", 2, 13);
         check.dueFault("a += " + repeat("A[", 9) + "0" + repeat("]", 9) + ";", 2, 22);
         check.dueFault("a += -(A[-(A[-(-(b))])]);", 2, 15);
-        check.due("the [ of a P and seven others", Check.read(x, 0, "A[(((((((1)))))))] += 1;"), 1);
-        check.dueFault("A[((((((((1))))))))] += 1;", 2, 9);
         check.dueFault("a += ((((((((b = (c)))))))));", 2, 17);
+    }
+
+    /** The [ of a P is not one of an F: what stands within it is within none yet. */
+    private static void nestingInPlaces() {
+        for (String sign : new String[] {"+=", "-=", "^=", "<<", ">>"}) dueEightWithin("A[", "] " + sign + " 1;");
+        dueEightWithin("A[", "] <> b;");
+        dueEightWithin("b <> A[", "];");
+        dueEightWithin("B[0] <> A[", "];");
+        // The brackets of one P are over where the other one begins, and where the E behind it does.
+        dueEightWithin("A[" + repeat("(", 8) + "1" + repeat(")", 8) + "] <> B[", "];");
+        dueEightWithin("A[" + repeat("-", 8) + "1] += ", ";");
+        dueEightWithin("if a { A[", "] += 1; } else { } fi a;");
+
+        // The eighth ( may stand, so that the first fault is another one further on.
+        check.dueFault("A[" + repeat("(", 8) + "1)))))", 1, 16);
+        check.dueFault("b <> A[" + repeat("(", 8) + "1)))))", 1, 21);
+        check.dueFault("A[" + repeat("-", 8) + "]", 1, 10);
+        check.dueFault("A[" + repeat("B[", 8) + ";", 1, 18);
+        // The [ of a P itself stands within none.
+        check.dueFault("A(", 1, 1);
+        check.dueFault("b <> A(", 1, 6);
+        check.dueFault("A[0;", 1, 3);
+    }
+
+    /** An E between head and tail: a bracket within seven others may stand there, one within eight is FAULT 2. */
+    private static void dueEightWithin(String head, String tail) {
+        dueDeepest(head, "(", "1", ")", tail);
+        dueDeepest(head, "-", "1", "", tail);
+        dueDeepest(head, "C[", "1", "]", tail);
+        dueDeepest(head, "(b < ", "1", ")", tail);
+        dueDeepest(head, "(", "1", " = b)", tail);
+        dueDeepest(head, "2 * (#B + ", "1", ")", tail);
+    }
+
+    private static void dueDeepest(String head, String open, String middle, String close, String tail) {
+        String eight = head + repeat(open, 8) + middle + repeat(close, 8) + tail;
+        ThereAndBack x = new ThereAndBack();
+        check.due("read of " + eight, Check.read(x, 0, eight) > 0 ? 1 : 0, 1);
+        check.due("fault(0) of " + eight, x.fault(0), 0);
+        for (String ninth : new String[] {"(", "-", "C["}) {
+            int at = (head + repeat(open, 8) + ninth).length() - 1;
+            check.dueFault(head + repeat(open, 8) + ninth + middle + repeat(close, 8) + tail, 2, at);
+        }
     }
 
     private static void standingInItself() {
@@ -261,6 +303,9 @@ final class TextsTest {
         duePrint("a+=((b));", "a += ((b));");
         duePrint("a+=#A-1;", "a += #A - 1;");
         duePrint("a+=A[0]-(b)-c;", "a += A[0] - (b) - c;");
+        duePrint("A[((((((((1))))))))]+=1;", "A[((((((((1))))))))] += 1;");
+        duePrint("A[ - - - - - - - -1 ]<>B[(-(-(-(-b))))-1];", "A[--------1] <> B[(-(-(-(-b)))) - 1];");
+        duePrint("a<>A [B [C [D [E [F [A [B [C [0]]]]]]]]];", "a <> A[B[C[D[E[F[A[B[C[0]]]]]]]]];");
         duePrint("newAint-1;end B char 0;", "new A int -1; end B char 0;");
         duePrint("push aS;pop bV;call 3;uncall 4;", "push a S; pop b V; call 3; uncall 4;");
         duePrint("if-a{b<>c;}else{}fi(a);", "if -a { b <> c; } else { } fi (a);");
