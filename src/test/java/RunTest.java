@@ -31,29 +31,24 @@ final class RunTest {
         check.due("at(-1)", x.at(-1), BAD);
         check.due("at(5)", x.at(5), 0);
         check.due("begin(0, false)", x.begin(0, false), 2);
-        dueAt(x, 0, 0, 1, 0, 0);
+        check.dueAt(x, 0, 0, 1, 0, 0);
         check.due("at(6)", x.at(6), BAD);
         x.give(0, 0);
         check.due("go(false)", x.go(false), 1);
-        dueAt(x, 0, 1, 1, 0, 1);
+        check.dueAt(x, 0, 1, 1, 0, 1);
         check.due("begin(1, false), the run stays", x.begin(1, false), NOT);
-        dueAt(x, 0, 1, 1, 0, 1);
+        check.dueAt(x, 0, 1, 1, 0, 1);
         check.due("begin(0, true)", x.begin(0, true), 2);
-        dueAt(x, 0, 2, -1, 0, 0);
+        check.dueAt(x, 0, 2, -1, 0, 0);
         check.due("the state stays", x.value(0), 1);
         check.due("go(true) at the end", x.go(true), -32);
         check.due("go(false): b is not there", x.go(false), -21);
         x.give(1, 0);
         check.due("go(false)", x.go(false), 1);
         check.due("value(1)", x.value(1), -1);
-        dueAt(x, 0, 1, -1, 0, 1);
+        check.dueAt(x, 0, 1, -1, 0, 1);
         check.due("go(true)", x.go(true), 1);
-        dueAt(x, 0, 2, -1, 0, 0);
-    }
-
-    /** ROUTINE, PLACE, WAY, FRAMES, STEPS. */
-    private static void dueAt(ThereAndBack x, int... want) {
-        for (int what = 0; what < want.length; what++) check.due("at(" + what + ")", x.at(what), want[what]);
+        check.dueAt(x, 0, 2, -1, 0, 0);
     }
 
     private static void running() {
@@ -79,7 +74,7 @@ final class RunTest {
         check.due("at(5)", x.at(5), 0);
         check.due("run(-300)", x.run(-300), 1);
         check.due("at(5)", x.at(5), ENDED);
-        dueAt(x, 0, 0, 1, 0, 0);
+        check.dueAt(x, 0, 0, 1, 0, 0);
         x.wipe();
         check.due("at(5) of no run", x.at(5), ENDED);
         check.due("go(false) of no run", x.go(false), NOT);
@@ -234,7 +229,7 @@ final class RunTest {
         x.begin(0, false);
         check.due("frame(0, 0)", x.frame(0, 0), BAD);
         x.run(2);
-        dueAt(x, 1, 0, 1, 1, 2);
+        check.dueAt(x, 1, 0, 1, 1, 2);
         check.due("frame(0, 0)", x.frame(0, 0), 0);
         check.due("frame(0, 1)", x.frame(0, 1), 1);
         check.due("frame(0, 2)", x.frame(0, 2), BAD);
@@ -242,25 +237,25 @@ final class RunTest {
         check.due("frame(1, 0)", x.frame(1, 0), BAD);
         check.due("frame(-1, 0)", x.frame(-1, 0), BAD);
         x.go(false);
-        dueAt(x, 1, 1, 1, 1, 3);
+        check.dueAt(x, 1, 1, 1, 1, 3);
         x.go(false);
-        dueAt(x, 0, 2, 1, 0, 4);
+        check.dueAt(x, 0, 2, 1, 0, 4);
         x.go(true);
-        dueAt(x, 1, 1, 1, 1, 3);
+        check.dueAt(x, 1, 1, 1, 1, 3);
         x.run(-2);
-        dueAt(x, 0, 1, 1, 0, 1);
+        check.dueAt(x, 0, 1, 1, 0, 1);
         check.due("value(1)", x.value(1), 0);
         x.begin(0, true);
         x.run(2);
-        dueAt(x, 1, 1, -1, 1, 2);
+        check.dueAt(x, 1, 1, -1, 1, 2);
         x.run(2);
-        dueAt(x, 0, 1, -1, 0, 4);
+        check.dueAt(x, 0, 1, -1, 0, 4);
         check.due("value(1)", x.value(1), -5);
         x.begin(0, false);
         x.run(2);
         check.due("at(3)", x.at(3), 1);
         x.begin(0, false);
-        dueAt(x, 0, 0, 1, 0, 0);
+        check.dueAt(x, 0, 0, 1, 0, 0);
         x.wipe();
         check.due("frame(9, 9) of no run", x.frame(9, 9), NOT);
     }
@@ -272,42 +267,42 @@ final class RunTest {
         for (int k = 0; k < 3; k++) x.give(k, 0);
         x.begin(0, false);
         x.run(2);
-        dueAt(x, 1, 2, -1, 1, 2);
+        check.dueAt(x, 1, 2, -1, 1, 2);
         x.go(false);
-        dueAt(x, 2, 0, 1, 2, 3);
+        check.dueAt(x, 2, 0, 1, 2, 3);
         check.due("frame(1, 0)", x.frame(1, 0), 1);
         check.due("frame(1, 1)", x.frame(1, 1), 1);
         x.go(false);
-        dueAt(x, 2, 1, 1, 2, 4);
+        check.dueAt(x, 2, 1, 1, 2, 4);
         check.due("value(2)", x.value(2), 7);
         x.go(false);
-        dueAt(x, 1, 1, -1, 1, 5);
+        check.dueAt(x, 1, 1, -1, 1, 5);
         x.go(true);
-        dueAt(x, 2, 1, 1, 2, 4);
+        check.dueAt(x, 2, 1, 1, 2, 4);
         x.go(false);
         x.go(false);
-        dueAt(x, 1, 0, -1, 1, 6);
+        check.dueAt(x, 1, 0, -1, 1, 6);
         check.due("value(1)", x.value(1), -5);
         x.go(false);
-        dueAt(x, 0, 2, 1, 0, 7);
+        check.dueAt(x, 0, 2, 1, 0, 7);
         check.due("run(300)", x.run(300), 1);
         check.due("run(-300)", x.run(-300), 8);
-        dueAt(x, 0, 0, 1, 0, 0);
+        check.dueAt(x, 0, 0, 1, 0, 0);
         for (int k = 0; k < 3; k++) check.due("value(" + k + ")", x.value(k), 0);
         // Back over uncall: into the routine at PLACE 0, by the way there.
         x.begin(0, true);
         x.run(2);
-        dueAt(x, 1, 0, 1, 1, 2);
+        check.dueAt(x, 1, 0, 1, 1, 2);
         x.run(2);
-        dueAt(x, 2, 1, -1, 2, 4);
+        check.dueAt(x, 2, 1, -1, 2, 4);
         x.run(2);
-        dueAt(x, 1, 2, 1, 1, 6);
+        check.dueAt(x, 1, 2, 1, 1, 6);
         x.go(false);
-        dueAt(x, 0, 1, -1, 0, 7);
+        check.dueAt(x, 0, 1, -1, 0, 7);
         x.go(true);
-        dueAt(x, 1, 2, 1, 1, 6);
+        check.dueAt(x, 1, 2, 1, 1, 6);
         x.run(-300);
-        dueAt(x, 0, 3, -1, 0, 0);
+        check.dueAt(x, 0, 3, -1, 0, 0);
     }
 
     private static void emptyRoutines() {
@@ -315,17 +310,17 @@ final class RunTest {
         Check.read(x, 1, "");
         x.begin(0, false);
         x.go(false);
-        dueAt(x, 1, 0, 1, 1, 1);
+        check.dueAt(x, 1, 0, 1, 1, 1);
         x.go(false);
-        dueAt(x, 0, 1, 1, 0, 2);
+        check.dueAt(x, 0, 1, 1, 0, 2);
         x.go(false);
-        dueAt(x, 1, 0, -1, 1, 3);
+        check.dueAt(x, 1, 0, -1, 1, 3);
         x.go(true);
-        dueAt(x, 0, 1, 1, 0, 2);
+        check.dueAt(x, 0, 1, 1, 0, 2);
         check.due("run(2)", x.run(2), 2);
-        dueAt(x, 0, 2, 1, 0, 4);
+        check.dueAt(x, 0, 2, 1, 0, 4);
         check.due("run(-300)", x.run(-300), 4);
-        dueAt(x, 0, 0, 1, 0, 0);
+        check.dueAt(x, 0, 0, 1, 0, 0);
     }
 
     private static void deepCalls() {
