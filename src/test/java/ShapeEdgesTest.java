@@ -20,6 +20,7 @@ final class ShapeEdgesTest {
         whileTurned();
         whenTurned();
         countersTurned();
+        deepestTurned();
         turnOfOneOrTheSame();
         turnRefused();
         turnOfTrailNames();
@@ -254,6 +255,25 @@ final class ShapeEdgesTest {
             .repeat(2).strip());
         dueTurned("when a { } else { while b { }; };", "let y = (a = 0); if (y = 0) { } else { let x = 0; from (x = 0) { } "
             + "loop { x += 1; } until (b = 0); push x V; unlet x = 0; } fi (y = 0); push y V; unlet y = 0;");
+    }
+
+    /** Terms 4: "until ( E = 0 )", "let c = ( E = 0 )": one ( more around an E that is as deep as can be. */
+    private static void deepestTurned() {
+        String[] texts = {"while ((((((((a)))))))) { set a = a - 1; };", "while --------a { set a = a - --------1; };",
+            "when ((((((((a)))))))) { set a = 0; } else { set a = 9; };"};
+        for (String text : texts) {
+            ThereAndBack x = Check.with(text);
+            x.give(0, 3);
+            x.turn(0, 1);
+            x.begin(1, false);
+            int goes = x.run(300);
+            check.due("at(5) of turned " + text, x.at(5), Why.ENDED);
+            check.due("value(0) of turned " + text, x.value(0), 0);
+            check.due("run(-300) of turned " + text, x.run(-300), goes);
+            check.due("value(0) again", x.value(0), 3);
+            check.due("walk(0, 400) of " + text, x.walk(0, 400) > 0 ? 1 : 0, 1);
+            check.due("value(0) walked", x.value(0), 0);
+        }
     }
 
     private static void dueTurned(String text, String want) {

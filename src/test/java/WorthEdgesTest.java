@@ -14,6 +14,7 @@ final class WorthEdgesTest {
         productsGoRound();
         cutTowardNaught();
         lessAndEqual();
+        deepest();
         absent();
         missing();
         missingBehindE();
@@ -173,6 +174,21 @@ final class WorthEdgesTest {
         dueWorth("(4 < 5) + 1", 2);
         dueWorth("(5 = 5) * 3 - 1", 2);
         dueWorth("((4 < 5) = (5 = 5)) + 1", 2);
+    }
+
+    /** Terms 1: "a ( or [ or - of an F within eight others of these": what is as deep as can be comes to a worth, too. */
+    private static void deepest() {
+        dueWorth("-------5", -5);
+        dueWorth("--------5", 5);
+        dueWorth("(((((((5)))))))", 5);
+        dueWorth("((((((((5))))))))", 5);
+        dueWorth("(1 + (2 * (3 - (4 - (5 * (6 - (7 - (8 + 9))))))))", 159);
+        dueWorth("(1 < (1 < (1 < (1 < (1 < (1 < (1 < (0 < 1))))))))", 0);
+        dueWorth("((((((((0 < 1) = 1) = 1) = 1) = 1) = 1) = 1) = 1)", 1);
+        dueWorth("B[B[B[B[B[B[B[B[2] + 2] + 2] + 2] + 2] + 2] + 2] + 2]", 0);
+        dueWorth("-(-(-(-(5)))) + 1", 6);
+        new Scene(check, "A[((((((((1))))))))] += --------5;").row('A', Why.LONG, 0, 0).done().isRow('A', Why.LONG, 0, 5);
+        new Scene(check, "A[--------1] <> b;").name('b', 7).row('A', Why.INT, 0, 0).done().isRow('A', Why.INT, 0, 7);
     }
 
     private static void dueWorth(String e, long want) {
