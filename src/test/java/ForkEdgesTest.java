@@ -1,4 +1,4 @@
-/** The edges of Terms 3, INSTRUCTIONS: the PLACES that THE RUN comes to, and where it can't. One method a sentence, which its remark names. */
+/** The edges of Terms 3: the PLACES that THE RUN comes to, and where it can't. One method a sentence, which its remark names. */
 final class ForkEdgesTest {
     private static final Check check = new Check();
     private static final String IF = "if A[0] { b += 1; } else { c += 1; } fi A[1];";
@@ -87,7 +87,9 @@ final class ForkEdgesTest {
 
     /** Terms 3, FORWARD: "FI: TEST if E2 is not 0; to k + 1." */
     private static void overFiForward() {
-        for (long e : TRUE) begun(IF, false).tests(0, 0).goes(false, 3).goes(false, 4).tests(0, e).goes(false, TEST).tests(0, 0).goes(false, 5);
+        for (long e : TRUE) {
+            begun(IF, false).tests(0, 0).goes(false, 3).goes(false, 4).tests(0, e).goes(false, TEST).tests(0, 0).goes(false, 5);
+        }
         begun(IF, false).tests(0, 0).goes(false, 3).goes(false, 4).tests(1, 0).goes(false, 5);
     }
 

@@ -122,7 +122,7 @@ final class StepEdgesTest {
             new Scene(check, "A[2]" + sign + "c;").row('A', Why.INT, 1, 1).refused(Why.OUTSIDE);
             new Scene(check, "A[-1]" + sign + "c;").row('A', Why.INT, 1, 1).refused(Why.OUTSIDE);
             new Scene(check, "A[0]" + sign + "c;").row('A', Why.INT).refused(Why.OUTSIDE);
-            new Scene(check, "B[A[11]]" + sign + "c;").row('A', Why.INT, 0, 0, 0, 0, 0, 0, 0, 0, 0, 0, 0, 99).row('B', Why.INT, 1).refused(Why.OUTSIDE);
+            new Scene(check, "B[A[11] + 1]" + sign + "c;").row('A', Why.INT, new long[12]).row('B', Why.INT, 1).refused(Why.OUTSIDE);
             new Scene(check, "A[1 / 0]" + sign + "c;").row('A', Why.INT, 1, 1).refused(Why.ZERO);
             new Scene(check, "A[A[0]]" + sign + "c;").row('A', Why.INT, 0, 1).refused(Why.SELF);
             new Scene(check, "A[1]" + sign + "c + A[1];").row('A', Why.INT, 1, 1).refused(Why.ABSENT);

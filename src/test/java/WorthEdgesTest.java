@@ -40,8 +40,9 @@ final class WorthEdgesTest {
     /** Terms 2: "ROWS are there, with a KIND and 0 to 12 ITEMS, or not". */
     private static void rowsOfItems() {
         for (int kind = 0; kind <= 4; kind++) {
-            for (int n : new int[] {0, 1, 11, 12}) new Scene(check, "new D " + Why.KINDS[kind] + " " + n + ";").done().isRow('D', kind, new long[n]);
-            new Scene(check, "new D " + Why.KINDS[kind] + " 13;").refused(Why.SIZE).isNoRow('D');
+            String text = "new D " + Why.KINDS[kind] + " ";
+            for (int n : new int[] {0, 1, 11, 12}) new Scene(check, text + n + ";").done().isRow('D', kind, new long[n]);
+            new Scene(check, text + "13;").refused(Why.SIZE).isNoRow('D');
         }
         new Scene(check, "D[11] += 1;").row('D', Why.BYTE, new long[12]).done().isRow('D', Why.BYTE, 0, 0, 0, 0, 0, 0, 0, 0, 0, 0, 0, 1);
         new Scene(check, "D[12] += 1;").row('D', Why.BYTE, new long[12]).refused(Why.OUTSIDE);
